@@ -1,0 +1,183 @@
+import java.util.Random;
+
+/** Long runs of calls, the same each time, on VersionDesk and on PlainDesk beside it. */
+public final class ModelTest {
+    private static final Due due = new Due("ModelTest");
+    private static final int RUNS = 600;
+    private static final int CALLS = 512;
+    private static final int[] WILD = {
+        -1, -2, 0, 8, 9, 31, 60, 255, 256, 15359, 15360, 65535, 65536, Integer.MIN_VALUE, Integer.MAX_VALUE};
+
+    private final Random random;
+    private final VersionDesk x = new VersionDesk();
+    private final PlainDesk y = new PlainDesk();
+    private final int[] places = new int[CALLS];
+    private final int taking;
+    private final int dropping;
+    private final boolean large;
+    private int known = 0;
+
+    private ModelTest(long seed) {
+        random = new Random(seed);
+        taking = random.nextInt(40);
+        dropping = random.nextInt(3);
+        large = random.nextInt(2) == 0;
+    }
+
+    public static void main(String[] args) {
+        for (int run = 0; run < RUNS; run++) {
+            ModelTest test = new ModelTest(run);
+            for (int call = 0; call < CALLS; call++) {
+                test.step();
+            }
+            test.compareAll();
+        }
+        due.close();
+    }
+
+    private int wild(int usual) {
+        return random.nextInt(20) == 0 ? WILD[random.nextInt(WILD.length)] : usual;
+    }
+
+    private int table() {
+        return wild(random.nextInt(large ? 2 : 8));
+    }
+
+    private int place() {
+        if (known > 0 && random.nextInt(8) != 0) {
+            return wild(places[random.nextInt(known)]);
+        }
+        return wild(256 * random.nextInt(60) + random.nextInt(26));
+    }
+
+    private static long bit(boolean answer) {
+        return answer ? 1 : 0;
+    }
+
+    private void step() {
+        int dice = random.nextInt(160);
+        if (dice < taking) {
+            int place = place();
+            due.is("take", bit(x.take(place)), bit(y.take(place)));
+        } else if (dice < taking + dropping) {
+            int table = table();
+            due.is("drop", bit(x.drop(table)), bit(y.drop(table)));
+        } else if (dice < 90) {
+            stepPut();
+        } else if (dice < 110) {
+            stepHand();
+        } else if (dice < 120) {
+            stepCreate();
+        } else if (dice < 145) {
+            stepVersion();
+        } else {
+            stepAsk();
+        }
+    }
+
+    private void stepPut() {
+        int table = table();
+        int number = wild(random.nextInt() >>> 1);
+        int maker = wild(random.nextInt(65536));
+        int command = wild(random.nextInt(65536));
+        int place = x.put(table, number, maker, command);
+        due.is("put", place, y.put(table, number, maker, command));
+        if (place >= 0) {
+            places[known++] = place;
+        }
+    }
+
+    private void stepHand() {
+        int column = wild(random.nextInt(8));
+        long number = random.nextInt(4) == 0 ? 0 : random.nextLong();
+        int dice = random.nextInt(12);
+        if (dice == 0) {
+            x.clear();
+            y.clear();
+        } else if (large ? column % 4 != 0 : column % 3 == 1) {
+            int n = wild(large ? 8 : random.nextInt(9));
+            due.is("text", bit(x.text(column, number, n)), bit(y.text(column, number, n)));
+        } else {
+            due.is("cell", bit(x.cell(column, number)), bit(y.cell(column, number)));
+        }
+    }
+
+    private void stepCreate() {
+        int table = table();
+        int many = wild(1 + random.nextInt(8));
+        // The TEXT columns are those of which stepHand makes TEXTs, or nearly every put would be refused.
+        int usual = large ? 22212223 : 21321321;
+        int types = random.nextInt(10) == 0 ? random.nextInt() : wild(usual);
+        due.is("create", bit(x.create(table, many, types)), bit(y.create(table, many, types)));
+    }
+
+    private void stepVersion() {
+        int place = place();
+        int dice = random.nextInt(3);
+        if (dice == 0) {
+            int by = wild(random.nextInt(65536));
+            int command = wild(random.nextInt(65536));
+            due.is("end", bit(x.end(place, by, command)), bit(y.end(place, by, command)));
+        } else if (dice == 1) {
+            int other = wild(random.nextInt(15360));
+            due.is("behind", bit(x.behind(place, other)), bit(y.behind(place, other)));
+        } else {
+            due.is("get", bit(x.get(place)), bit(y.get(place)));
+        }
+    }
+
+    private void stepAsk() {
+        int place = place();
+        int table = table();
+        int column = wild(random.nextInt(8));
+        int small = wild(random.nextInt(9));
+        switch (random.nextInt(6)) {
+            case 0: due.is("look", x.look(place, small), y.look(place, small)); break;
+            case 1: due.is("next", x.next(table, place), y.next(table, place)); break;
+            case 2: due.is("value", x.value(column), y.value(column)); break;
+            case 3: due.is("letter", x.letter(column, small), y.letter(column, small)); break;
+            case 4: due.is("kind", x.kind(column), y.kind(column)); break;
+            default:
+                int page = wild(random.nextInt(60));
+                due.is("page", x.page(page, small), y.page(page, small));
+        }
+    }
+
+    /** What the desk tells behind its last call is free, but this class is meant to go on the same. */
+    private void compareAll() {
+        compareHands();
+        for (int p = 0; p < 60; p++) {
+            for (int what = 0; what < 5; what++) {
+                due.is("page(" + p + ", " + what + ")", x.page(p, what), y.page(p, what));
+            }
+        }
+        for (int table = 0; table < 8; table++) {
+            int place = x.next(table, -1);
+            due.is("next", place, y.next(table, -1));
+            for (int steps = 0; steps < CALLS && place >= 0; steps++) {
+                comparePlace(place);
+                int after = x.next(table, place);
+                due.is("next", after, y.next(table, place));
+                place = after;
+            }
+        }
+    }
+
+    private void comparePlace(int place) {
+        for (int what = 0; what < 8; what++) {
+            due.is("look(" + place + ", " + what + ")", x.look(place, what), y.look(place, what));
+        }
+        due.is("get", bit(x.get(place)), bit(y.get(place)));
+        compareHands();
+    }
+
+    private void compareHands() {
+        for (int c = 0; c < 8; c++) {
+            due.is("kind", x.kind(c), y.kind(c));
+            due.is("value", x.value(c), y.value(c));
+            for (int i = 0; i < 32; i++) {
+                due.is("letter", x.letter(c, i), y.letter(c, i));
+            }
+        }
+    }
+}
