@@ -7,6 +7,7 @@ public final class ChainTest {
         freeSlotNeedsNoNewBytes();
         freeSlotTooSmallGoesOn();
         firstPageWithRoom();
+        longestChain();
         emptyPagesLeave();
         firstPageStays();
         chainOrderIsNotPageOrder();
@@ -105,6 +106,28 @@ public final class ChainTest {
         due.is("first page again", x.put(0, 6, 0, 0), 1);
         rowOf(x, 16);
         due.is("rest of the first", x.put(0, 7, 0, 0), 2);
+    }
+
+    private static void longestChain() {
+        VersionDesk x = desk();
+        rowOf(x, 272);
+        for (int p = 0; p < 60; p++) {
+            due.is("one a page", x.put(0, p, 0, 0), 256 * p);
+        }
+        rowOf(x, 216);
+        for (int p = 0; p < 60; p++) {
+            due.is("fill each page", x.put(0, 60 + p, 0, 0), 256 * p + 1);
+        }
+        due.is("no room", x.put(0, 120, 0, 0), -1);
+        isPage(x, 59, new int[] {0, 2, 2, 0, -1});
+        due.is("the hand stays", x.kind(0), 2);
+        due.yes("take", x.take(256 * 59));
+        due.yes("take", x.take(256 * 59 + 1));
+        isPage(x, 59, new int[] {-1, 0, 0, 496, -1});
+        isPage(x, 58, new int[] {0, 2, 2, 0, -1});
+        due.yes("take", x.take(1));
+        due.is("room in front", x.put(0, 121, 0, 0), 1);
+        due.is("room at the end", x.put(0, 122, 0, 0), 256 * 59);
     }
 
     private static void emptyPagesLeave() {

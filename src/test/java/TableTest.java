@@ -139,6 +139,8 @@ public final class TableTest {
         due.yes("create anew", x.create(0, 1, 1));
         due.is("empty", x.next(0, -1), -1);
         due.is("no slots", x.page(0, 1), 0);
+        due.is("no versions", x.page(0, 2), 0);
+        due.is("all bytes free", x.page(0, 3), 496);
         due.is("no version", x.look(0, 0), -1);
     }
 }

@@ -11,10 +11,12 @@ public final class VersionTest {
         putRefusesKinds();
         sizes();
         getBringsTheRow();
+        cellsLieBehindEachOther();
         boolsAreZeroOrOne();
         endsAndBehinds();
         noVersionAtPlace();
         takenIsGone();
+        nothingOldInUsedBytes();
         due.close();
     }
 
@@ -65,7 +67,11 @@ public final class VersionTest {
 
     private static void putRefusesKinds() {
         VersionDesk x = deskWith(3, 321);
-        due.is("all NULL", x.put(0, 0, 0, 0), 0);
+        due.is("all NULL", x.put(0, Integer.MAX_VALUE, 0, 0), 0);
+        due.yes("a cell behind the columns", x.cell(3, 5));
+        due.is("put beside it", x.put(0, 0, 0, 0), 1);
+        due.is("does not touch its neighbour", x.look(0, 0), Integer.MAX_VALUE);
+        due.yes("take", x.take(1));
         for (int c = 0; c < 3; c++) {
             x.clear();
             due.yes("cell", x.cell(c, 1));
@@ -81,6 +87,10 @@ public final class VersionTest {
         due.is("cells behind the columns are free", x.put(0, 0, 0, 0), 4);
         due.is("and not packed", x.look(4, 6), 16);
         due.is("the hand stays", x.value(7), 8);
+        due.yes("get", x.get(4));
+        for (int c = 0; c < 8; c++) {
+            due.is("kind " + c, x.kind(c), 0);
+        }
     }
 
     private static void sizes() {
@@ -129,6 +139,32 @@ public final class VersionTest {
         due.is("NULL", x.value(2), 0);
         due.is("empty", x.value(3), 0);
         due.is("behind the columns", x.value(7), 0);
+    }
+
+    private static void cellsLieBehindEachOther() {
+        VersionDesk x = deskWith(6, 213212);
+        due.yes("text", x.text(0, 0xF1F2F3L, 3));
+        due.yes("cell", x.cell(1, 0x0102030405060708L));
+        due.yes("text", x.text(2, 0xE1E2L, 2));
+        due.yes("cell", x.cell(3, -9));
+        due.yes("cell", x.cell(4, -1));
+        due.yes("text", x.text(5, 0xD1L, 1));
+        due.is("put", x.put(0, 0, 0, 0), 0);
+        due.is("put its twin in front", x.put(0, 1, 0, 0), 1);
+        for (int place = 0; place < 2; place++) {
+            x.clear();
+            due.yes("get", x.get(place));
+            due.is("letter", x.letter(0, 0), 0xF1);
+            due.is("letter", x.letter(0, 1), 0xF2);
+            due.is("letter", x.letter(0, 2), 0xF3);
+            due.is("INT", x.value(1), 0x0102030405060708L);
+            due.is("letter", x.letter(2, 0), 0xE1);
+            due.is("letter", x.letter(2, 1), 0xE2);
+            due.is("BOOL", x.value(3), 1);
+            due.is("INT", x.value(4), -1);
+            due.is("letter", x.letter(5, 0), 0xD1);
+            due.is("lengths", x.value(0) + 10 * x.value(2) + 100 * x.value(5), 123);
+        }
     }
 
     private static void boolsAreZeroOrOne() {
@@ -222,5 +258,25 @@ public final class VersionTest {
         looksLike(x, 0, new int[] {99, 1, 1, 0, 0, -1, 16, 0});
         due.yes("get", x.get(0));
         due.is("nothing old in it", x.kind(0), 0);
+        due.yes("take one packed before it", x.take(1));
+        due.yes("cell", x.cell(0, -1));
+        due.is("put over where it was", x.put(0, 77, 7, 7), 1);
+        looksLike(x, 0, new int[] {99, 1, 1, 0, 0, -1, 16, 0});
+    }
+
+    private static void nothingOldInUsedBytes() {
+        VersionDesk x = deskWith(1, 1);
+        due.yes("cell", x.cell(0, -1));
+        due.is("put", x.put(0, Integer.MAX_VALUE, 65535, 65535), 0);
+        due.yes("end", x.end(0, 65535, 65535));
+        due.yes("behind", x.behind(0, 15359));
+        due.yes("take", x.take(0));
+        due.is("put", x.put(0, 0, 0, 0), 0);
+        looksLike(x, 0, new int[] {0, 0, 0, 0, 0, -1, 24, 0});
+        due.yes("take", x.take(0));
+        x.clear();
+        due.is("put", x.put(0, 0, 0, 0), 0);
+        due.yes("get", x.get(0));
+        due.is("NULL", x.kind(0), 0);
     }
 }
