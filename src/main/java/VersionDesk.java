@@ -536,7 +536,7 @@ public final class VersionDesk {
         }
 
         int letterAt(int column, int i) {
-            if (i < 0 || i >= lengthAt(column)) {
+            if (kindAt(column) != KIND_TEXT || i < 0 || i >= lengths[column]) {
                 return NONE;
             }
             return letters[column * MOST_LETTERS + i] & 255;

@@ -16,141 +16,114 @@ public final class ChainTest {
         due.close();
     }
 
-    private static VersionDesk desk() {
-        VersionDesk x = new VersionDesk();
-        due.yes("create", x.create(0, 8, 22222222));
-        return x;
-    }
-
-    /** A row whose version takes this size, 16 or from 17 to 272, in a table of eight TEXTs. */
-    private static void rowOf(VersionDesk x, int size) {
-        x.clear();
-        int left = size - 16;
-        for (int c = 0; left > 0; c++) {
-            int letters = Math.min(31, left - 1);
-            left -= letters + 1;
-            while (letters > 8) {
-                due.yes("text", x.text(c, 0x6162636465666768L, 8));
-                letters -= 8;
-            }
-            due.yes("text", x.text(c, 0x6162636465666768L, letters));
-        }
-    }
-
-    private static void isPage(VersionDesk x, int p, int[] want) {
-        for (int what = 0; what < 5; what++) {
-            due.is("page(" + p + ", " + what + ")", x.page(p, what), want[what]);
-        }
-    }
-
     private static void pageFillsToItsLastByte() {
-        VersionDesk x = desk();
-        rowOf(x, 272);
+        VersionDesk x = Rows.deskOfTexts();
+        Rows.ofSize(x, Rows.LARGEST);
         due.is("put", x.put(0, 1, 0, 0), 0);
-        isPage(x, 0, new int[] {0, 1, 1, 220, -1});
-        rowOf(x, 217);
+        Rows.isPage(due, x, 0, 0, 1, 1, 220, -1);
+        Rows.ofSize(x, 217);
         due.is("one byte too many", x.put(0, 2, 0, 0), 256);
-        rowOf(x, 216);
+        Rows.ofSize(x, 216);
         due.is("just fits", x.put(0, 3, 0, 0), 1);
-        isPage(x, 0, new int[] {0, 2, 2, 0, 1});
+        Rows.isPage(due, x, 0, 0, 2, 2, 0, 1);
         due.is("size", x.look(1, 6), 216);
-        rowOf(x, 16);
+        Rows.ofSize(x, 16);
         due.is("no byte left", x.put(0, 4, 0, 0), 257);
-        VersionDesk y = desk();
+        VersionDesk y = Rows.deskOfTexts();
         for (int i = 0; i < 24; i++) {
             due.is("smallest", y.put(0, i, 0, 0), i);
         }
-        isPage(y, 0, new int[] {0, 24, 24, 16, -1});
+        Rows.isPage(due, y, 0, 0, 24, 24, 16, -1);
         due.is("16 bytes, but none for a slot", y.put(0, 24, 0, 0), 256);
     }
 
     private static void freeSlotNeedsNoNewBytes() {
-        VersionDesk x = desk();
+        VersionDesk x = Rows.deskOfTexts();
         for (int i = 0; i < 24; i++) {
             due.is("smallest", x.put(0, i, 0, 0), i);
         }
         due.yes("take", x.take(23));
         due.yes("take", x.take(5));
-        isPage(x, 0, new int[] {0, 24, 22, 48, -1});
-        rowOf(x, 48);
+        Rows.isPage(due, x, 0, 0, 24, 22, 48, -1);
+        Rows.ofSize(x, 48);
         due.is("all free bytes, lowest free slot", x.put(0, 50, 0, 0), 5);
-        isPage(x, 0, new int[] {0, 24, 23, 0, -1});
+        Rows.isPage(due, x, 0, 0, 24, 23, 0, -1);
         for (int i = 0; i < 23; i++) {
             due.is("number", x.look(i, 0), i == 5 ? 50 : i);
         }
     }
 
     private static void freeSlotTooSmallGoesOn() {
-        VersionDesk x = desk();
+        VersionDesk x = Rows.deskOfTexts();
         for (int i = 0; i < 24; i++) {
             due.is("smallest", x.put(0, i, 0, 0), i);
         }
         due.yes("take", x.take(0));
-        rowOf(x, 33);
+        Rows.ofSize(x, 33);
         due.is("does not fit the free slot", x.put(0, 50, 0, 0), 256);
-        isPage(x, 0, new int[] {0, 24, 23, 32, 1});
-        rowOf(x, 32);
+        Rows.isPage(due, x, 0, 0, 24, 23, 32, 1);
+        Rows.ofSize(x, 32);
         due.is("fits", x.put(0, 51, 0, 0), 0);
     }
 
     private static void firstPageWithRoom() {
-        VersionDesk x = desk();
-        rowOf(x, 272);
+        VersionDesk x = Rows.deskOfTexts();
+        Rows.ofSize(x, Rows.LARGEST);
         for (int i = 0; i < 4; i++) {
             due.is("one a page", x.put(0, i, 0, 0), 256 * i);
         }
-        rowOf(x, 196);
+        Rows.ofSize(x, 196);
         due.is("first page", x.put(0, 4, 0, 0), 1);
         due.is("second page", x.put(0, 5, 0, 0), 257);
         due.yes("take", x.take(1));
         due.is("first page again", x.put(0, 6, 0, 0), 1);
-        rowOf(x, 16);
+        Rows.ofSize(x, 16);
         due.is("rest of the first", x.put(0, 7, 0, 0), 2);
     }
 
     private static void longestChain() {
-        VersionDesk x = desk();
-        rowOf(x, 272);
+        VersionDesk x = Rows.deskOfTexts();
+        Rows.ofSize(x, Rows.LARGEST);
         for (int p = 0; p < 60; p++) {
             due.is("one a page", x.put(0, p, 0, 0), 256 * p);
         }
-        rowOf(x, 216);
+        Rows.ofSize(x, 216);
         for (int p = 0; p < 60; p++) {
             due.is("fill each page", x.put(0, 60 + p, 0, 0), 256 * p + 1);
         }
         due.is("no room", x.put(0, 120, 0, 0), -1);
-        isPage(x, 59, new int[] {0, 2, 2, 0, -1});
+        Rows.isPage(due, x, 59, 0, 2, 2, 0, -1);
         due.is("the hand stays", x.kind(0), 2);
         due.yes("take", x.take(256 * 59));
         due.yes("take", x.take(256 * 59 + 1));
-        isPage(x, 59, new int[] {-1, 0, 0, 496, -1});
-        isPage(x, 58, new int[] {0, 2, 2, 0, -1});
+        Rows.isFreePage(due, x, 59);
+        Rows.isPage(due, x, 58, 0, 2, 2, 0, -1);
         due.yes("take", x.take(1));
         due.is("room in front", x.put(0, 121, 0, 0), 1);
         due.is("room at the end", x.put(0, 122, 0, 0), 256 * 59);
     }
 
     private static void emptyPagesLeave() {
-        VersionDesk x = desk();
-        rowOf(x, 272);
+        VersionDesk x = Rows.deskOfTexts();
+        Rows.ofSize(x, Rows.LARGEST);
         for (int i = 0; i < 4; i++) {
             due.is("one a page", x.put(0, i, 0, 0), 256 * i);
         }
         due.yes("take from the middle", x.take(512));
-        isPage(x, 2, new int[] {-1, 0, 0, 496, -1});
-        isPage(x, 1, new int[] {0, 1, 1, 220, 3});
+        Rows.isFreePage(due, x, 2);
+        Rows.isPage(due, x, 1, 0, 1, 1, 220, 3);
         due.is("next goes over it", x.next(0, 256), 768);
         due.yes("take the last", x.take(768));
-        isPage(x, 3, new int[] {-1, 0, 0, 496, -1});
-        isPage(x, 1, new int[] {0, 1, 1, 220, -1});
+        Rows.isFreePage(due, x, 3);
+        Rows.isPage(due, x, 1, 0, 1, 1, 220, -1);
         due.is("lowest free page", x.put(0, 9, 0, 0), 512);
-        isPage(x, 1, new int[] {0, 1, 1, 220, 2});
-        isPage(x, 2, new int[] {0, 1, 1, 220, -1});
+        Rows.isPage(due, x, 1, 0, 1, 1, 220, 2);
+        Rows.isPage(due, x, 2, 0, 1, 1, 220, -1);
     }
 
     private static void firstPageStays() {
-        VersionDesk x = desk();
-        rowOf(x, 272);
+        VersionDesk x = Rows.deskOfTexts();
+        Rows.ofSize(x, Rows.LARGEST);
         for (int i = 0; i < 3; i++) {
             due.is("put", x.put(0, i, 0, 0), 256 * i);
         }
@@ -158,45 +131,45 @@ public final class ChainTest {
         due.is("put", x.put(0, 3, 0, 0), 1);
         due.yes("take", x.take(0));
         due.yes("take", x.take(1));
-        isPage(x, 0, new int[] {0, 2, 0, 488, 1});
+        Rows.isPage(due, x, 0, 0, 2, 0, 488, 1);
         due.is("first version", x.next(0, -1), 256);
         due.is("put", x.put(0, 4, 0, 0), 0);
-        isPage(x, 0, new int[] {0, 2, 1, 472, 1});
+        Rows.isPage(due, x, 0, 0, 2, 1, 472, 1);
         due.yes("take", x.take(0));
         due.yes("take", x.take(512));
         due.yes("take", x.take(256));
-        isPage(x, 0, new int[] {0, 2, 0, 488, -1});
+        Rows.isPage(due, x, 0, 0, 2, 0, 488, -1);
         due.is("no version", x.next(0, -1), -1);
         due.no("still there", x.create(0, 1, 1));
         due.yes("drop", x.drop(0));
-        isPage(x, 0, new int[] {-1, 0, 0, 496, -1});
+        Rows.isFreePage(due, x, 0);
     }
 
     private static void chainOrderIsNotPageOrder() {
         VersionDesk x = new VersionDesk();
         due.yes("create", x.create(1, 1, 1));
         due.yes("create", x.create(0, 8, 22222222));
-        rowOf(x, 272);
+        Rows.ofSize(x, Rows.LARGEST);
         due.is("put", x.put(0, 0, 0, 0), 256);
         due.is("put", x.put(0, 1, 0, 0), 512);
         due.yes("drop", x.drop(1));
         due.is("the lowest page comes last", x.put(0, 2, 0, 0), 0);
-        isPage(x, 2, new int[] {0, 1, 1, 220, 0});
+        Rows.isPage(due, x, 2, 0, 1, 1, 220, 0);
         due.is("first", x.next(0, -1), 256);
         due.is("second", x.next(0, 256), 512);
         due.is("third", x.next(0, 512), 0);
         due.is("no more", x.next(0, 0), -1);
         due.yes("page 0 is not the first of the chain", x.take(0));
-        isPage(x, 0, new int[] {-1, 0, 0, 496, -1});
-        isPage(x, 2, new int[] {0, 1, 1, 220, -1});
+        Rows.isFreePage(due, x, 0);
+        Rows.isPage(due, x, 2, 0, 1, 1, 220, -1);
     }
 
     private static void nextSkipsAndRefuses() {
-        VersionDesk x = desk();
+        VersionDesk x = Rows.deskOfTexts();
         due.is("empty table", x.next(0, -1), -1);
         due.is("empty page", x.next(0, 0), -1);
         due.yes("create", x.create(1, 1, 1));
-        rowOf(x, 100);
+        Rows.ofSize(x, 100);
         for (int i = 0; i < 6; i++) {
             due.is("put", x.put(0, i, 0, 0), i < 4 ? i : 512 + i - 4);
         }
@@ -223,7 +196,7 @@ public final class ChainTest {
     }
 
     private static void noSuchPage() {
-        VersionDesk x = desk();
+        VersionDesk x = Rows.deskOfTexts();
         int[] pages = {-1, 60, 61, Integer.MIN_VALUE, Integer.MAX_VALUE};
         for (int p : pages) {
             for (int what = -1; what < 6; what++) {
@@ -235,6 +208,6 @@ public final class ChainTest {
             due.is("what " + what, x.page(0, what), -1);
             due.is("what " + what, x.page(59, what), -1);
         }
-        isPage(x, 59, new int[] {-1, 0, 0, 496, -1});
+        Rows.isFreePage(due, x, 59);
     }
 }

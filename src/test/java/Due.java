@@ -1,6 +1,7 @@
 /** Counts and prints the answers that are not as due. */
 final class Due {
     private final String name;
+    private String sentence = "";
     private int wrong = 0;
     private int asked = 0;
 
@@ -8,11 +9,16 @@ final class Due {
         this.name = name;
     }
 
+    /** The document's sentence that the answers from here on belong to. */
+    void about(String said) {
+        sentence = " [" + said + "]";
+    }
+
     void is(String call, long got, long want) {
         asked++;
         if (got != want) {
             wrong++;
-            System.out.println(name + ": " + call + " answered " + got + ", due is " + want);
+            System.out.println(name + sentence + ": " + call + " answered " + got + ", due is " + want);
         }
     }
 

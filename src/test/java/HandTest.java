@@ -17,14 +17,8 @@ public final class HandTest {
     private static void newHandIsNull() {
         VersionDesk x = new VersionDesk();
         for (int c = 0; c < 8; c++) {
-            isNull(x, c);
+            Rows.isNull(due, x, c);
         }
-    }
-
-    private static void isNull(VersionDesk x, int c) {
-        due.is("kind of NULL", x.kind(c), 0);
-        due.is("value of NULL", x.value(c), 0);
-        due.is("letter of NULL", x.letter(c, 0), -1);
     }
 
     private static void cellsHoldNumbers() {
@@ -50,7 +44,7 @@ public final class HandTest {
         }
         x.clear();
         for (int c = 0; c < 8; c++) {
-            isNull(x, c);
+            Rows.isNull(due, x, c);
         }
         due.yes("text on a cleared cell", x.text(1, 66, 1));
         due.is("its length", x.value(1), 1);
@@ -75,7 +69,7 @@ public final class HandTest {
         for (int i : outside) {
             due.is("letter " + i, x.letter(7, i), -1);
         }
-        isNull(x, 6);
+        Rows.isNull(due, x, 6);
     }
 
     private static void textsAreBounded() {
@@ -83,7 +77,7 @@ public final class HandTest {
         int[] wrong = {-1, 9, Integer.MIN_VALUE, Integer.MAX_VALUE};
         for (int n : wrong) {
             due.no("text of " + n, x.text(0, 1, n));
-            isNull(x, 0);
+            Rows.isNull(due, x, 0);
         }
         for (int i = 0; i < 3; i++) {
             due.yes("eight", x.text(0, 0x4142434445464748L, 8));
@@ -97,7 +91,7 @@ public final class HandTest {
         due.is("letter 30", x.letter(0, 30), 0x78);
         due.is("letter 24", x.letter(0, 24), 0x72);
         due.is("letter 31", x.letter(0, 31), -1);
-        isNull(x, 1);
+        Rows.isNull(due, x, 1);
     }
 
     private static void textAndCellReplaceEachOther() {
@@ -127,7 +121,7 @@ public final class HandTest {
             due.is("kind", x.kind(c), -1);
         }
         for (int c = 0; c < 8; c++) {
-            isNull(x, c);
+            Rows.isNull(due, x, c);
         }
     }
 }

@@ -21,16 +21,8 @@ public final class TableTest {
             due.no("drop", x.drop(t));
         }
         for (int p = 0; p < 60; p++) {
-            isFree(x, p);
+            Rows.isFreePage(due, x, p);
         }
-    }
-
-    private static void isFree(VersionDesk x, int p) {
-        due.is("table of free page " + p, x.page(p, 0), -1);
-        due.is("slots of free page " + p, x.page(p, 1), 0);
-        due.is("versions of free page " + p, x.page(p, 2), 0);
-        due.is("bytes of free page " + p, x.page(p, 3), 496);
-        due.is("page behind free page " + p, x.page(p, 4), -1);
     }
 
     private static void createTakesTheLowestPage() {
@@ -43,12 +35,12 @@ public final class TableTest {
         due.is("versions", x.page(0, 2), 0);
         due.is("bytes", x.page(0, 3), 496);
         due.is("page behind", x.page(0, 4), -1);
-        isFree(x, 8);
+        Rows.isFreePage(due, x, 8);
         due.yes("drop", x.drop(5));
         due.yes("drop", x.drop(3));
         due.yes("create", x.create(3, 2, 11));
         due.is("lowest free page", x.page(2, 0), 3);
-        isFree(x, 4);
+        Rows.isFreePage(due, x, 4);
     }
 
     private static void createRefuses() {
@@ -61,13 +53,13 @@ public final class TableTest {
         for (int m : many) {
             due.no("create of " + m, x.create(0, m, 1111111111));
         }
-        isFree(x, 0);
+        Rows.isFreePage(due, x, 0);
         due.yes("create", x.create(0, 1, 2));
         due.no("create again", x.create(0, 1, 1));
         x.clear();
         due.yes("text", x.text(0, 65, 1));
         due.is("still with its types", x.put(0, 0, 0, 0), 0);
-        isFree(x, 1);
+        Rows.isFreePage(due, x, 1);
     }
 
     private static void digitsAreTypes() {
@@ -90,7 +82,7 @@ public final class TableTest {
     private static void createNeedsAPage() {
         VersionDesk x = new VersionDesk();
         due.yes("create", x.create(0, 8, 22222222));
-        fillTexts(x);
+        Rows.ofSize(x, Rows.LARGEST);
         for (int p = 0; p < 60; p++) {
             due.is("put", x.put(0, p, 0, 0), 256 * p);
         }
@@ -107,28 +99,19 @@ public final class TableTest {
         due.is("the lowest", x.page(0, 0), 2);
     }
 
-    private static void fillTexts(VersionDesk x) {
-        for (int c = 0; c < 8; c++) {
-            for (int i = 0; i < 3; i++) {
-                due.yes("text", x.text(c, 0x6162636465666768L, 8));
-            }
-            due.yes("text", x.text(c, 0x6162636465666768L, 7));
-        }
-    }
-
     private static void dropFreesAll() {
         VersionDesk x = new VersionDesk();
         due.yes("create", x.create(0, 8, 22222222));
         due.yes("create", x.create(1, 8, 22222222));
-        fillTexts(x);
+        Rows.ofSize(x, Rows.LARGEST);
         due.is("put", x.put(0, 1, 0, 0), 0);
         due.is("put", x.put(1, 2, 0, 0), 256);
         due.is("put", x.put(0, 3, 0, 0), 512);
         due.is("put", x.put(1, 4, 0, 0), 768);
         due.yes("drop", x.drop(0));
         due.no("drop again", x.drop(0));
-        isFree(x, 0);
-        isFree(x, 2);
+        Rows.isFreePage(due, x, 0);
+        Rows.isFreePage(due, x, 2);
         due.no("version gone", x.get(0));
         due.is("version gone", x.look(512, 0), -1);
         due.is("next", x.next(0, -1), -1);
