@@ -3,8 +3,9 @@ import java.util.Random;
 /** Long runs of calls, the same each time, on VersionDesk and on PlainDesk beside it. */
 public final class ModelTest {
     private static final Due due = new Due("ModelTest");
-    private static final int RUNS = 600;
+    private static final int RUNS = 4000;
     private static final int CALLS = 512;
+    private static final int LONGEST_COMPARISON = 49;
     private static final int[] WILD = {
         -1, -2, 0, 8, 9, 31, 60, 255, 256, 15359, 15360, 65535, 65536, Integer.MIN_VALUE, Integer.MAX_VALUE};
 
@@ -27,10 +28,11 @@ public final class ModelTest {
     public static void main(String[] args) {
         for (int run = 0; run < RUNS; run++) {
             ModelTest test = new ModelTest(run);
-            for (int call = 0; call < CALLS; call++) {
+            int steps = CALLS * (1 + run % 5) / 5;
+            for (int call = 0; call < steps; call++) {
                 test.step();
             }
-            test.compareAll();
+            test.compare(CALLS - steps);
         }
         due.close();
     }
@@ -143,41 +145,44 @@ public final class ModelTest {
         }
     }
 
-    /** What the desk tells behind its last call is free, but this class is meant to go on the same. */
-    private void compareAll() {
-        compareHands();
-        for (int p = 0; p < 60; p++) {
-            for (int what = 0; what < 5; what++) {
-                due.is("page(" + p + ", " + what + ")", x.page(p, what), y.page(p, what));
-            }
-        }
-        for (int table = 0; table < 8; table++) {
-            int place = x.next(table, -1);
-            due.is("next", place, y.next(table, -1));
-            for (int steps = 0; steps < CALLS && place >= 0; steps++) {
-                comparePlace(place);
-                int after = x.next(table, place);
-                due.is("next", after, y.next(table, place));
-                place = after;
+    /** An object is good for 512 calls, so the two are compared at some points alone, by what is left of the calls. */
+    private void compare(int calls) {
+        int left = calls;
+        while (left > 0) {
+            if (left > LONGEST_COMPARISON && known > 0 && random.nextInt(30) == 0) {
+                compareRow(places[random.nextInt(known)]);
+                left -= LONGEST_COMPARISON;
+            } else {
+                compareFact();
+                left--;
             }
         }
     }
 
-    private void comparePlace(int place) {
-        for (int what = 0; what < 8; what++) {
+    private void compareFact() {
+        int place = place();
+        if (random.nextInt(3) == 0) {
+            int p = random.nextInt(8) == 0 ? random.nextInt(60) : place >> 8;
+            int what = random.nextInt(5);
+            due.is("page(" + p + ", " + what + ")", x.page(p, what), y.page(p, what));
+        } else if (random.nextInt(3) == 0) {
+            int table = Math.max(y.look(place, 7), 0);
+            due.is("next(" + table + ", " + place + ")", x.next(table, place), y.next(table, place));
+        } else {
+            int what = random.nextInt(8);
             due.is("look(" + place + ", " + what + ")", x.look(place, what), y.look(place, what));
         }
-        due.is("get", bit(x.get(place)), bit(y.get(place)));
-        compareHands();
     }
 
-    private void compareHands() {
+    private void compareRow(int place) {
+        due.is("get(" + place + ")", bit(x.get(place)), bit(y.get(place)));
         for (int c = 0; c < 8; c++) {
-            due.is("kind", x.kind(c), y.kind(c));
-            due.is("value", x.value(c), y.value(c));
-            for (int i = 0; i < 32; i++) {
-                due.is("letter", x.letter(c, i), y.letter(c, i));
-            }
+            due.is("kind(" + c + ")", x.kind(c), y.kind(c));
+            due.is("value(" + c + ")", x.value(c), y.value(c));
+        }
+        int c = random.nextInt(8);
+        for (int i = 0; i < 32; i++) {
+            due.is("letter(" + c + ", " + i + ")", x.letter(c, i), y.letter(c, i));
         }
     }
 }
