@@ -15,6 +15,7 @@ public final class EdgePutTakeTest {
         lowestFreePageComesBehind();
         largestVersionFitsAnEmptyPage();
         emptiedFirstPageHasRoomForTheLargest();
+        lastPageOfTheLongestChain();
         noPageLeft();
         takenSlotIsFree();
         takenRoomIsFree();
@@ -214,6 +215,20 @@ public final class EdgePutTakeTest {
         Rows.isPage(due, x, 0, 0, 24, 2, 0, -1);
     }
 
+    private static void lastPageOfTheLongestChain() {
+        due.about("the first page of the chain that has room, the last of 60");
+        VersionDesk x = Rows.deskWithoutFreePage();
+        Rows.ofSize(x, 216);
+        for (int p = 0; p < 60; p++) {
+            put(x, p, 256 * p + 1);
+        }
+        due.is("no room", x.put(0, 60, 0, 0), -1);
+        due.yes("take", x.take(256 * 59));
+        put(x, 60, 256 * 59);
+        due.is("free there", x.page(59, 3), 56);
+        due.is("no room", x.put(0, 61, 0, 0), -1);
+    }
+
     private static void noPageLeft() {
         due.about("-1 if no page has room");
         VersionDesk x = Rows.deskWithoutFreePage();
@@ -361,24 +376,45 @@ public final class EdgePutTakeTest {
         VersionDesk x = Rows.deskOfTexts();
         int[] sizes = {40, 16, 90, 17, 60, 48, 100};
         for (int slot = 0; slot < sizes.length; slot++) {
-            Rows.ofSize(x, sizes[slot]);
-            put(x, 100 + slot, slot);
-            due.yes("end", x.end(slot, 200 + slot, 300 + slot));
+            putMarked(x, slot, sizes[slot]);
         }
         int[] taken = {2, 0, 5};
         for (int slot : taken) {
             due.yes("take", x.take(slot));
         }
-        Rows.ofSize(x, 150);
-        put(x, 7, 0);
-        int[] left = {1, 3, 4, 6};
+        putMarked(x, 0, 150);
+        putMarked(x, 2, 20);
+        int[] left = {0, 1, 2, 3, 4, 6};
         for (int slot : left) {
-            due.is("number", x.look(slot, 0), 100 + slot);
-            due.is("end", x.look(slot, 3), 200 + slot);
-            due.is("end command", x.look(slot, 4), 300 + slot);
-            due.is("size", x.look(slot, 6), sizes[slot]);
-            due.yes("get", x.get(slot));
-            due.is("put it again", x.put(0, 0, 0, 0) >= 0 ? 1 : 0, 1);
+            isMarked(x, slot, slot == 0 ? 150 : slot == 2 ? 20 : sizes[slot]);
         }
+        int[] takenThen = {1, 6, 3};
+        for (int slot : takenThen) {
+            due.yes("take", x.take(slot));
+        }
+        isMarked(x, 0, 150);
+        isMarked(x, 2, 20);
+        isMarked(x, 4, 60);
+    }
+
+    private static void putMarked(VersionDesk x, int slot, int size) {
+        Rows.ofSize(x, size);
+        put(x, 100 + slot, slot);
+        due.yes("end", x.end(slot, 200 + slot, 300 + slot));
+        due.yes("behind", x.behind(slot, 400 + slot));
+    }
+
+    private static void isMarked(VersionDesk x, int slot, int size) {
+        due.is("number", x.look(slot, 0), 100 + slot);
+        due.is("end", x.look(slot, 3), 200 + slot);
+        due.is("end command", x.look(slot, 4), 300 + slot);
+        due.is("behind", x.look(slot, 5), 400 + slot);
+        due.is("size", x.look(slot, 6), size);
+        due.yes("get", x.get(slot));
+        int bytes = 16;
+        for (int c = 0; c < 8; c++) {
+            bytes += x.kind(c) == 2 ? 1 + (int) x.value(c) : 0;
+        }
+        due.is("bytes of its row", bytes, size);
     }
 }

@@ -248,6 +248,9 @@ public final class EdgeTableTest {
         due.yes("create", x.create(0, 1, 1));
         Rows.isPage(due, x, 0, 0, 0, 0, 496, -1);
         Rows.isFreePage(due, x, 1);
+        due.is("no version in slot 0", x.look(0, 0), -1);
+        due.no("no version in slot 0", x.get(0));
+        due.no("no version in slot 0", x.take(0));
         due.is("next", x.next(0, -1), -1);
         due.is("TEXT in an INT", x.put(0, 0, 0, 0), -2);
         x.cell(0, 9);

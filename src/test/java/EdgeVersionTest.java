@@ -20,6 +20,7 @@ public final class EdgeVersionTest {
         getCellsBehindItsColumns();
         getCellsThatWereNull();
         getNone();
+        noneBehindTheSlotsOfAFullPage();
         endEdges();
         endNone();
         endIsNotAsSaid();
@@ -203,6 +204,10 @@ public final class EdgeVersionTest {
             x.cell(many, 5);
             due.is("a number just behind its columns", x.put(0, 0, 0, 0), 0);
             due.is("size", x.look(0, 6), 16);
+            due.is("put beside it", x.put(0, Integer.MAX_VALUE, 65535, 65535), 1);
+            due.is("put", x.put(0, 0, 0, 0), 2);
+            looks(x, 0, 0, 0, 0, 0, 0, -1, 16, 0);
+            looks(x, 1, Integer.MAX_VALUE, 65535, 65535, 0, 0, -1, 16, 0);
             x.cell(many - 1, 5);
             due.is("a number in its last column", x.put(0, 0, 0, 0), -2);
         }
@@ -282,6 +287,22 @@ public final class EdgeVersionTest {
         isNoVersionDesk(x);
         due.yes("get(2)", x.get(2));
         due.is("the hand", x.kind(6), 0);
+    }
+
+    private static void noneBehindTheSlotsOfAFullPage() {
+        due.about("Promises 8 to 12: none at the place, where the bytes behind the slots are those of a version");
+        VersionDesk x = Rows.deskOfTexts();
+        Rows.ofSize(x, 272);
+        due.is("put", x.put(0, Integer.MAX_VALUE, 65535, 65535), 0);
+        Rows.ofSize(x, 216);
+        due.is("put", x.put(0, Integer.MAX_VALUE, 65535, 65535), 1);
+        due.is("no byte free", x.page(0, 3), 0);
+        for (int place = 2; place < 256; place += place < 130 ? 1 : 25) {
+            due.is("look(" + place + ", 0)", x.look(place, 0), -1);
+            due.no("get(" + place + ")", x.get(place));
+            due.no("take(" + place + ")", x.take(place));
+        }
+        Rows.isPage(due, x, 0, 0, 2, 2, 0, -1);
     }
 
     private static void endEdges() {
@@ -399,9 +420,16 @@ public final class EdgeVersionTest {
             x.cell(c, c);
         }
         due.is("put", x.put(7, 0x7F80FF01, 0x80FF, 0xFF80), 256);
+        looks(x, 256, 0x7F80FF01, 0x80FF, 0xFF80, 0, 0, -1, 24, 7);
         due.yes("end", x.end(256, 0x8001, 0x01FF));
         due.yes("behind", x.behind(256, 256));
         looks(x, 256, 0x7F80FF01, 0x80FF, 0xFF80, 0x8001, 0x01FF, 256, 24, 7);
+        x.clear();
+        due.yes("get", x.get(256));
+        for (int c = 0; c < 8; c++) {
+            due.is("the row, after end and behind", x.kind(c), 1);
+            due.is("the row, after end and behind", x.value(c), c == 0 ? 0 : 1);
+        }
     }
 
     private static void lookAnotherWhat() {
