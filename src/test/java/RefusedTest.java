@@ -5,7 +5,8 @@ import java.util.function.Supplier;
 import java.util.function.ToLongFunction;
 
 /**
- * "A call that is refused changes nothing.": all that a desk tells is asked with and without the refused call.
+ * "A call that is refused changes nothing.": what a desk tells of its hand, its pages and many of its places, and
+ * where the next versions come, is asked with and without the refused call.
  * An object is good for 512 calls, so the questions are spread over many desks that were made in the same way.
  */
 public final class RefusedTest {
