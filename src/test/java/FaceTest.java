@@ -35,6 +35,11 @@ public final class FaceTest {
         for (Field field : face.getDeclaredFields()) {
             due.yes("private field " + field.getName(), Modifier.isPrivate(field.getModifiers()));
         }
+        for (Class<?> inside : face.getDeclaredClasses()) {
+            int seen = inside.getModifiers();
+            due.yes("static class " + inside.getSimpleName(), Modifier.isStatic(seen));
+            due.no("class to be seen " + inside.getSimpleName(), Modifier.isPublic(seen) || Modifier.isProtected(seen));
+        }
         Constructor<?>[] constructors = face.getDeclaredConstructors();
         due.is("constructors", constructors.length, 1);
         due.is("parameters of the constructor", constructors[0].getParameterCount(), 0);

@@ -6,8 +6,14 @@ public final class ModelTest {
     private static final int RUNS = 4000;
     private static final int CALLS = 512;
     private static final int LONGEST_COMPARISON = 49;
+    private static final int ALL_TEXTS = 22222222;
     private static final int[] WILD = {
         -1, -2, 0, 8, 9, 31, 60, 255, 256, 15359, 15360, 65535, 65536, Integer.MIN_VALUE, Integer.MAX_VALUE};
+
+    /** CROWDED: the run begins with the largest rows, so that no page is left soon; the others don't get there. */
+    private enum Run { SMALL, LARGE, CROWDED }
+
+    private static int withoutRoom = 0;
 
     private final Random random;
     private final VersionDesk x = new VersionDesk();
@@ -15,26 +21,46 @@ public final class ModelTest {
     private final int[] places = new int[CALLS];
     private final int taking;
     private final int dropping;
-    private final boolean large;
+    private final Run kind;
     private int known = 0;
 
     private ModelTest(long seed) {
         random = new Random(seed);
         taking = random.nextInt(40);
         dropping = random.nextInt(3);
-        large = random.nextInt(2) == 0;
+        kind = Run.values()[random.nextInt(3)];
     }
 
     public static void main(String[] args) {
         for (int run = 0; run < RUNS; run++) {
             ModelTest test = new ModelTest(run);
             int steps = CALLS * (1 + run % 5) / 5;
-            for (int call = 0; call < steps; call++) {
+            for (int call = test.begin(); call < steps; call++) {
                 test.step();
             }
             test.compare(CALLS - steps);
         }
+        due.yes("some puts found no room", withoutRoom > 0);
         due.close();
+    }
+
+    /** Begins a CROWDED run; answers how many calls it made. */
+    private int begin() {
+        if (kind != Run.CROWDED) {
+            return 0;
+        }
+        for (int table = 0; table < 2; table++) {
+            due.is("create", bit(x.create(table, 8, ALL_TEXTS)), bit(y.create(table, 8, ALL_TEXTS)));
+        }
+        for (int i = 0; i < 32; i++) {
+            long bytes = random.nextLong();
+            int n = i < 24 ? 8 : 7;
+            due.is("text", bit(x.text(i % 8, bytes, n)), bit(y.text(i % 8, bytes, n)));
+        }
+        for (int i = 0; i < 61; i++) {
+            stepPut();
+        }
+        return 2 + 32 + 61;
     }
 
     private int wild(int usual) {
@@ -42,7 +68,7 @@ public final class ModelTest {
     }
 
     private int table() {
-        return wild(random.nextInt(large ? 2 : 8));
+        return wild(random.nextInt(kind == Run.SMALL ? 8 : kind == Run.LARGE ? 2 : 3));
     }
 
     private int place() {
@@ -84,6 +110,7 @@ public final class ModelTest {
         int command = wild(random.nextInt(65536));
         int place = x.put(table, number, maker, command);
         due.is("put", place, y.put(table, number, maker, command));
+        withoutRoom += place == -1 ? 1 : 0;
         if (place >= 0) {
             places[known++] = place;
         }
@@ -96,20 +123,35 @@ public final class ModelTest {
         if (dice == 0) {
             x.clear();
             y.clear();
-        } else if (large ? column % 4 != 0 : column % 3 == 1) {
-            int n = wild(large ? 8 : random.nextInt(9));
+        } else if (becomesText(column)) {
+            int n = wild(kind == Run.LARGE ? 8 : random.nextInt(9));
             due.is("text", bit(x.text(column, number, n)), bit(y.text(column, number, n)));
         } else {
             due.is("cell", bit(x.cell(column, number)), bit(y.cell(column, number)));
         }
     }
 
+    private boolean becomesText(int column) {
+        switch (kind) {
+            case SMALL: return column % 3 == 1;
+            case LARGE: return column % 4 != 0;
+            default: return true;
+        }
+    }
+
+    /** The TEXT columns are those of which stepHand makes TEXTs, or nearly every put would be refused. */
+    private int usualTypes() {
+        switch (kind) {
+            case SMALL: return 21321321;
+            case LARGE: return 22212223;
+            default: return ALL_TEXTS;
+        }
+    }
+
     private void stepCreate() {
         int table = table();
         int many = wild(1 + random.nextInt(8));
-        // The TEXT columns are those of which stepHand makes TEXTs, or nearly every put would be refused.
-        int usual = large ? 22212223 : 21321321;
-        int types = random.nextInt(10) == 0 ? random.nextInt() : wild(usual);
+        int types = random.nextInt(10) == 0 ? random.nextInt() : wild(usualTypes());
         due.is("create", bit(x.create(table, many, types)), bit(y.create(table, many, types)));
     }
 
